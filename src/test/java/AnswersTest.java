@@ -174,6 +174,12 @@ public final class AnswersTest {
         x.stride(0, 8);
         Due.is("18 words with the stride of now: 1 + 8", x.bank(1, 3), 18);
         Due.is("none of them here", x.bank(2, 3), 0);
+        x.drop(0);
+        Due.is("not those of a dropped stream", x.bank(1, 3), 0);
+        for (int i = 0; i < 3; i++) {
+            x.add(1, 8, 10);
+        }
+        Due.is("those of four streams", x.bank(1, 3), 30);
     }
 
     private static void promise12CountChecks() {
