@@ -2,6 +2,9 @@
 public final class AnswersTest {
     private static final int NO_SUCH = Due.NO_SUCH, BAD_VALUE = Due.BAD_VALUE, NONE = Due.NONE;
 
+    /** An object is promised for 512 calls only. */
+    private static final int WORDS_OF_AN_OBJECT = 256;
+
     public static void main(String[] args) {
         promise9BankOfChecks();
         promise9BankOfByTheMaps();
@@ -52,20 +55,24 @@ public final class AnswersTest {
     }
 
     private static void promise9BankOfEveryWord() {
-        int[] primes = {0, 0, 2, 3, 3, 5, 5, 7, 7, 7, 7, 11, 11, 13, 13, 13, 13};
-        StrideBanks x = new StrideBanks();
         for (int banks = 2; banks <= 16; banks++) {
-            x.set(0, banks);
             for (int map = 0; map < 3; map++) {
-                x.set(2, map);
-                for (int address = 0; address < 4096; address++) {
-                    int due = map == 0 ? address % banks
-                        : map == 1 ? (address + address / banks) % banks : address % primes[banks];
-                    if (x.bankOf(address) != due) {
-                        Due.is(banks + " banks, map " + map + ": bankOf(" + address + ")", x.bankOf(address), due);
-                    }
+                for (int first = 0; first < 4096; first += WORDS_OF_AN_OBJECT) {
+                    promise9BankOfWords(banks, map, first);
                 }
             }
+        }
+    }
+
+    private static void promise9BankOfWords(int banks, int map, int first) {
+        int[] primes = {0, 0, 2, 3, 3, 5, 5, 7, 7, 7, 7, 11, 11, 13, 13, 13, 13};
+        StrideBanks x = new StrideBanks();
+        x.set(0, banks);
+        x.set(2, map);
+        for (int address = first; address < first + WORDS_OF_AN_OBJECT; address++) {
+            int due = map == 0 ? address % banks
+                : map == 1 ? (address + address / banks) % banks : address % primes[banks];
+            Due.is("bankOf()", x.bankOf(address), due);
         }
     }
 
